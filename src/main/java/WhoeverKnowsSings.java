@@ -656,11 +656,11 @@ public final class WhoeverKnowsSings {
         }
         int came = 0;
         for (int k = 0; k < n; k++) {
-            // at is within the row here from the second turn on, so the sum can't wrap.
-            if (!row.hasRange(at, 3) || !row.hasRange(at + 3 * k, 3)) {
+            // The first turn has found at within the row, so this can't wrap later on.
+            int i = at + 3 * k;
+            if (!row.hasRange(i, 3)) {
                 return OUTSIDE;
             }
-            int i = at + 3 * k;
             if (people.come(row.at(i), row.at(i + 1), row.at(i + 2)) >= 0) {
                 came++;
             }
@@ -675,15 +675,11 @@ public final class WhoeverKnowsSings {
         if (i < 0 || i >= MOST_SONGS + MOST_PEOPLE) {
             return OUTSIDE;
         }
-        boolean isSongs = i < MOST_SONGS;
+        if (i < MOST_SONGS) {
+            return !isSong(i) ? NOTHING : kind == A_SONG ? needed[i] : UNLIKE;
+        }
         int p = i - MOST_SONGS;
-        if (isSongs ? !isSong(i) : !isOne(p)) {
-            return NOTHING;
-        }
-        if (isSongs) {
-            return kind == A_SONG ? needed[i] : UNLIKE;
-        }
-        return people.isOf(p, kind) ? p : UNLIKE;
+        return !isOne(p) ? NOTHING : people.isOf(p, kind) ? p : UNLIKE;
     }
 
     // ---- what is there

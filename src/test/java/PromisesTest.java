@@ -166,6 +166,19 @@ public final class PromisesTest {
         tape(x, "#");
         due("text with a fault, full", x.text(), -4);
 
+        WhoeverKnowsSings y = new WhoeverKnowsSings();
+        due("feed by five", y.feed(5, 'm', 'a', 'y', ' ', '1'), 5);
+        due("feed by four", y.feed(4, ';', 'l', 'e', 'a', 'x'), 9);
+        due("feed by three", y.feed(3, 'r', 'n', '0', 'x', 'x'), 12);
+        due("feed by two", y.feed(2, ';', 'w', 'x', 'x', 'x'), 14);
+        due("feed by five", y.feed(5, 'a', 'l', 'l', ' ', '1'), 19);
+        due("feed by one", y.feed(1, ';', 'x', 'x', 'x', 'x'), 20);
+        due("the text that was fed", y.text(), 1);
+        y.force(1);
+        due("its may", y.asks(0, 0, 0, 0), 1);
+        due("its learn", y.asks(1, 0, 0, 0), 0);
+        due("its wall", y.asks(2, 0, 0, 0), 1);
+
         promise = 7;
         due("force(1)", x.force(1), 0);
         due("force(5)", x.force(5), 1);
@@ -262,6 +275,10 @@ public final class PromisesTest {
         fault("   ", 3);
         fault("m", 0);
         fault("mayy 1;", 0);
+        fault("mayz 1;", 0);
+        fault("maya 1;", 0);
+        fault("may a;", 4);
+        fault("may zz;", 4);
         fault("learn 1;", 0);
         fault("1", 0);
         fault("may ;", 4);
@@ -655,6 +672,12 @@ public final class PromisesTest {
         due("bars(0, 0, 15)", x.bars(0, 0, 15), 0);
         due("bars(0, 0, 3)", x.bars(0, 0, 3), 2);
         due("bars(0, 0, 13)", x.bars(0, 0, 13), 4);
+        x.teach(1, 1, 2);
+        x.teach(2, 1, 2);
+        due("bars(1, 0, 12)", x.bars(1, 0, 12), 4);
+        due("bars(1, 0, 14): two of them", x.bars(1, 0, 14), 0);
+        x.teach(1, 1, 0);
+        x.teach(2, 1, 0);
         due("bars(0, 0, 9): it may be", x.bars(0, 0, 9), 0);
         due("bars(0, 0, 0)", x.bars(0, 0, 0), 0);
         due("bars(3, 9, 15)", x.bars(3, 9, 15), -5);
@@ -671,6 +694,11 @@ public final class PromisesTest {
         due("ends(0, 0): one seat", x.ends(0, 0), 2 | 4);
         due("ends(4, 9)", x.ends(4, 9), -5);
         due("ends(-1, 0)", x.ends(-1, 0), -5);
+        WhoeverKnowsSings all = village(1, 0, 0);
+        law(all, "may by = 2; learn 1; wall 1;");
+        due("ends(0, 2): before all", all.ends(0, 2), 0);
+        all.seat(2, 1);
+        due("ends(0, 2): one seat", all.ends(0, 2), 1);
         due("ends(0, 4)", x.ends(0, 4), -7);
         due("ends(0, -1)", x.ends(0, -1), -7);
 
@@ -684,6 +712,8 @@ public final class PromisesTest {
         promise = 22;
         law(x, "may by = 0 and evening = 0; learn 1; wall 1;");
         due("all leave", x.leave(2, 0, 13), 13);
+        law(x, "may know = 0 and by = 3 or know = 1 and by = 2; learn 1; wall 1;");
+        due("the fewest, not the least", x.leave(1, 0, 15), 8);
         law(x, "may song = 1 and room = 2; learn 1; wall 1;");
         promise = 21;
         due("feast(2, 0) by song and room", x.feast(2, 0), 2);
@@ -732,6 +762,21 @@ public final class PromisesTest {
         due("the deaf one", y.why(0, 0, 6, 0), 2);
         due("who is wanted and not", y.why(0, 0, 4, 4), 4);
         due("nobody alone", y.why(0, 0, 6, 4), 0);
+        due("who knows it is needed", y.why(0, 0, 7, 0), 2);
+        WhoeverKnowsSings mute = village(1, 2, 0, 0);
+        mute.teach(0, 0, 2);
+        mute.teach(1, 0, 2);
+        law(mute, "may will = know and 0 < will and 0 < song + by - 2 or by = 9;learn 1;wall 1;");
+        due("who is wanted need not know it", mute.why(0, 0, 4, 0), 4);
+        due("three must be by", mute.least(0, 0, 4, 0, 0), -1);
+        mute.person(0, 0, 0);
+        due("another will do", mute.least(0, 0, 4, 0, 1), 14);
+        due("the other would learn it", mute.why(0, 0, 4, 8), 4);
+        law(mute, "may will = know and 0 < will and (by = 2) * (room = 1);learn 1;wall 1;");
+        due("two by two, there are", mute.why(0, 1, 4, 8), 0);
+        due("two by two, in another room", mute.why(0, 2, 12, 0), 0);
+        mute.person(3, 0, 0);
+        due("the deaf one of them", mute.why(0, 1, 28, 0), 16);
         law(y, "may know = 2 or by = 1;learn 1;wall 1;");
         due("it takes more than one to be away", y.why(0, 0, 6, 0), 0);
         due("no song", y.why(1, 0, 0, 0), -5);
@@ -795,6 +840,12 @@ public final class PromisesTest {
         x.teach(0, 2, 2);
         due("of 0", x.whole(0, 1), 0);
         due("of 1: song 1 needs song 0", x.whole(0, 2), -1);
+        WhoeverKnowsSings two = village(2, 0, 0);
+        two.teach(0, 0, 2);
+        two.teach(1, 1, 2);
+        due("of 0, song 1", two.whole(0, 1), 1);
+        due("of 1, song 0", two.whole(0, 2), 1);
+        due("of both, each song", two.whole(0, 3), 2);
         x.teach(1, 0, 2);
         due("of 1", x.whole(0, 2), 2);
         due("of 2: song 1 needs song 0", x.whole(0, 4), -1);
@@ -857,6 +908,12 @@ public final class PromisesTest {
         y.sheet(0, 0, 0);
         law(y, "may 1;learn 1;wall 1;");
         due("nobody at all", y.was(0, 0, 0, 0), 1);
+        WhoeverKnowsSings z = village(1, 0, 0);
+        z.teach(1, 0, 2);
+        z.wall(0, 1, 1);
+        row(z, 0, 2, 0, 2);
+        due("1 alone, 0 hears nothing", z.was(0, 0, 0, 0), 1);
+        due("1 alone", z.was(0, 0, 0, 1), 2);
     }
 
     private static void losses() {
@@ -907,6 +964,10 @@ public final class PromisesTest {
         WhoeverKnowsSings none = village(1);
         none.person(0, 0, 0);
         due("who never dies", none.keep(0, 0), 1);
+        WhoeverKnowsSings few = village(1, 0, 0);
+        few.person(0, 10, 0);
+        due("the fewest, not the least", few.keep(0, 250), 4);
+        due("all three", few.keep(0, 25), 7);
 
         promise = 32;
         due("rarest(): of like ones the first", x.rarest(), 1);
@@ -917,6 +978,12 @@ public final class PromisesTest {
         x.teach(0, 0, 0);
         x.teach(1, 0, 0);
         due("rarest(): half is nothing", x.rarest(), 0);
+        WhoeverKnowsSings like = village(2, 0, 0);
+        like.teach(0, 0, 2);
+        due("rarest(), one is known", like.rarest(), 1);
+        like.teach(0, 1, 2);
+        like.teach(1, 1, 2);
+        due("rarest(), the other by more", like.rarest(), 0);
         due("rarest() of none", new WhoeverKnowsSings().rarest(), -1);
         WhoeverKnowsSings sure = village(2);
         sure.person(0, 0, 0);
@@ -965,13 +1032,7 @@ public final class PromisesTest {
         due("who knows it, below", x.odds(50, 99999, 0, 0, 1), 1);
         due("never, above", x.odds(150, 99999, 0, 0, 0), 0);
         due("never, below", x.odds(150, 99999, 0, 0, 1), 1);
-        int hits = 0;
-        for (int seed = 10; seed < 18; seed++) {
-            hits += x.drawn(seed, 0, 102, 0) >> 1 & 1;
-        }
-        int divisor = hits % 8 == 0 ? 8 : hits % 4 == 0 ? 4 : hits % 2 == 0 ? 2 : 1;
-        due("eight seeds, above", x.odds(108, 10, 0, 102, 0), hits / divisor);
-        due("eight seeds, below", x.odds(108, 10, 0, 102, 1), 8 / divisor);
+        bySeeds(x);
         long no = WhoeverKnowsSings.NO;
         due("no such one", x.odds(501, 0, 0, 0, 0), no);
         due("who -1", x.odds(-1, 0, 0, 0, 0), no);
@@ -984,6 +1045,21 @@ public final class PromisesTest {
         due("how 400", x.odds(101, 0, 0, 400, 0), no);
         due("part 2", x.odds(101, 0, 0, 0, 2), no);
         due("part -1", x.odds(101, 0, 0, 0, -1), no);
+    }
+
+    /** By are 0 who knows it and 1 on the first evening if their lots are odd. */
+    private static void bySeeds(WhoeverKnowsSings x) {
+        for (int from = 0; from < 700; from += 7) {
+            long hits = 0;
+            for (int seed = from; seed < from + 8; seed++) {
+                long lot = (seed + 1L) * 48271 % 2147483647;
+                long other = lot * 48271 % 2147483647;
+                hits += lot % 2 * (other % 2);
+            }
+            long divisor = hits % 8 == 0 ? 8 : hits % 4 == 0 ? 4 : hits % 2 == 0 ? 2 : 1;
+            due("seeds from " + from + ", above", x.odds(108, from, 0, 101, 0), hits / divisor);
+            due("seeds from " + from + ", below", x.odds(108, from, 0, 101, 1), 8 / divisor);
+        }
     }
 
     private static void images() {
@@ -1158,6 +1234,9 @@ public final class PromisesTest {
         due("at 10", x.peopleBy(0, 1, 10, 1), -12);
         due("nobody came yet", x.count(0), 0);
         due("n 0", x.peopleBy(0, 1, 99, 0), 0);
+        due("n 0, a missing one", x.peopleBy(2, 1, 0, 0), 0);
+        due("n 0, another sort", x.peopleBy(0, 2, 0, 0), 0);
+        due("n 0, no such sheet", x.peopleBy(4, 1, 0, 0), -2);
         due("three, one is left out", x.peopleBy(0, 1, 1, 3), 2);
         due("two came", x.count(0), 2);
         due("kind of 0", x.told(0, 0), 1);
