@@ -644,9 +644,6 @@ public final class WhoeverKnowsSings {
         if (!isSheet(s) || sort < 0 || sort > Sheet.INTS || n < 0 || n > MOST_BY_SHEET) {
             return BAD;
         }
-        if (n == 0) {
-            return 0;
-        }
         Sheet row = rowOf(s);
         if (row == null) {
             return NOTHING;

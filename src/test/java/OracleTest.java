@@ -318,7 +318,8 @@ public final class OracleTest {
             due(x.taken(place, kind), o.taken(place, kind), "taken", place, kind);
             if (random.nextInt(4) == 0) {
                 int by = pick(6);
-                due(x.peopleBy(b, 2, i, by), o.peopleBy(b, 2, i, by), "peopleBy", b, 2, i, by);
+                int of = random.nextInt(4) == 0 ? pick(3) : 2;
+                due(x.peopleBy(b, of, i, by), o.peopleBy(b, of, i, by), "peopleBy", b, of, i, by);
             }
         }
     }
@@ -1376,9 +1377,6 @@ public final class OracleTest {
         int peopleBy(int s, int sort, int at, int n) {
             if (!in(s, 0, 3) || !in(sort, 0, 2) || !in(n, 0, 5)) {
                 return -2;
-            }
-            if (n == 0) {
-                return 0;
             }
             if (sheets[s] == null) {
                 return -11;
