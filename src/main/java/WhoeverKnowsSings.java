@@ -1552,7 +1552,8 @@ public final class WhoeverKnowsSings {
 
         void put(int i, int v) {
             if (has(i)) {
-                cells[i] = sort == BYTES ? v & 255 : sort == SHORTS ? (short) v : v;
+                // Bytes have a sign as shorts do, so that -1 (away) stays -1 in a row of them, too.
+                cells[i] = sort == BYTES ? (byte) v : sort == SHORTS ? (short) v : v;
             }
         }
     }

@@ -444,11 +444,18 @@ public final class PromisesTest {
         due("evening(1, 3, 0)", x.evening(1, 3, 0), 0);
         row(x, 1, 0, 1, 2, 3);
         due("by bytes", x.evening(0, 1, 1), 1);
-        row(x, 1, 0, 1, -1, 3);
-        due("by bytes, 255", x.evening(0, 1, 1), -2);
+        row(x, 1, 0, 1, -2, 3);
+        due("by bytes, room -2", x.evening(0, 1, 1), -2);
+        row(x, 1, 0, 1, 4, 3);
+        due("by bytes, room 4", x.evening(0, 1, 1), -2);
         row(x, 1, 1, 1, -1, 3);
         due("by shorts", x.evening(0, 1, 1), 2);
-        for (int e = 3; e < 12; e++) {
+        row(x, 1, 0, -1, 2, -1);
+        due("by bytes, two are away", x.evening(0, 1, 1), 3);
+        due("the first is away", x.eveningTold(3, 2), -1);
+        due("the second is in room 2", x.eveningTold(3, 3), 2);
+        due("the third is away", x.eveningTold(3, 4), -1);
+        for (int e = 4; e < 12; e++) {
             due("evening " + e, x.evening(0, 0, 0), e);
         }
         due("evening 12", x.evening(0, 0, 0), -4);
@@ -1163,6 +1170,23 @@ public final class PromisesTest {
         row(x, 1, 1, 65535, 0);
         due("a short with a sign", x.evening(0, 0, 1), 0);
         due("it was -1", x.eveningTold(0, 2), -1);
+        row(x, 1, 0, 255, 256 + 3);
+        due("a byte with a sign", x.evening(0, 0, 1), 1);
+        due("that was -1, too", x.eveningTold(1, 2), -1);
+        due("its lowest 8 bits are 3", x.eveningTold(1, 3), 3);
+        row(x, 1, 0, 128, 0);
+        due("a byte of -128", x.evening(0, 0, 1), -2);
+        row(x, 1, 0, 127, 0);
+        due("a byte of 127", x.evening(0, 0, 1), -2);
+        row(x, 1, 1, 255, 0);
+        due("a short of 255", x.evening(0, 0, 1), -2);
+        row(x, 1, 2, 65535, 0);
+        due("an int of 65535", x.evening(0, 0, 1), -2);
+        row(x, 1, 0, 0, -1);
+        x.sheet(2, 0, 2);
+        due("a byte of -1 is copied", x.copy(1, 1, 2, 0, 1), 1);
+        due("the copy is away, too", x.evening(0, 0, 2), 2);
+        due("the copy was -1", x.eveningTold(2, 2), -1);
         copies();
     }
 
