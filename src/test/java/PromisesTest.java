@@ -1,59 +1,5 @@
 /** For each promise of the document calls with the answers that are due, worked out by hand. */
-public final class PromisesTest {
-    private static final int MIN = Integer.MIN_VALUE, MAX = Integer.MAX_VALUE;
-    private static int wrong = 0;
-    private static int promise = 0;
-
-    private static void due(String call, long got, long want) {
-        if (got != want) {
-            wrong++;
-            System.out.println("promise " + promise + ": " + call + " answered " + got
-                + ", due is " + want);
-        }
-    }
-
-    /** A village with so many songs that need none, and people of the kinds told. */
-    private static WhoeverKnowsSings village(int songs, int... kinds) {
-        WhoeverKnowsSings x = new WhoeverKnowsSings();
-        for (int s = 0; s < songs; s++) {
-            x.song(-1);
-        }
-        for (int kind : kinds) {
-            x.person(kind, 50, 1);
-        }
-        return x;
-    }
-
-    private static void tape(WhoeverKnowsSings x, String text) {
-        for (int i = 0; i < text.length(); i++) {
-            x.feed(1, text.charAt(i), 0, 0, 0, 0);
-        }
-    }
-
-    private static int text(WhoeverKnowsSings x, String text) {
-        tape(x, text);
-        return x.text();
-    }
-
-    /** That text is read and becomes the law. */
-    private static void law(WhoeverKnowsSings x, String text) {
-        int t = text(x, text);
-        due("text " + text, t >= 0 ? 1 : t, 1);
-        x.force(t);
-    }
-
-    private static void row(WhoeverKnowsSings x, int s, int sort, int... numbers) {
-        x.sheet(s, sort, numbers.length);
-        for (int i = 0; i < numbers.length; i++) {
-            x.cell(s, i, numbers[i]);
-        }
-    }
-
-    private static int evening(WhoeverKnowsSings x, int s, int room, int... where) {
-        row(x, 3, 2, where);
-        return x.evening(s, room, 3);
-    }
-
+public final class PromisesTest extends Check {
     public static void main(String[] args) {
         villageAndLaw();
         texts();
@@ -72,10 +18,7 @@ public final class PromisesTest {
         sheets();
         peopleBySheets();
         places();
-        System.out.println(wrong == 0 ? "all answers are as due" : wrong + " answers are not as due");
-        if (wrong != 0) {
-            System.exit(1);
-        }
+        end();
     }
 
     private static void villageAndLaw() {
