@@ -522,15 +522,33 @@ public final class EdgesEveningsTest extends Check {
         String[] says = {"0", "1", "2", "-1", "8192*8192*32"};
         for (int learn = 0; learn < says.length; learn++) {
             for (int wall = 0; wall < says.length; wall++) {
-                WhoeverKnowsSings x = village(1, 0, 0, 0);
-                x.wall(0, 1, 1);
-                x.teach(0, 0, 2);
-                law(x, "may 1;learn " + says[learn] + ";wall " + says[wall] + ";");
-                evening(x, 0, 0, 0, 0, 1);
-                due("learn " + says[learn], x.knows(1, 1, 0), learn == 0 ? 0 : 2);
-                due("wall " + says[wall], x.knows(1, 2, 0), wall == 0 ? 0 : 1);
+                for (int p = 0; p < 5; p++) {
+                    heardOf(p, says[learn], says[wall], learn == 0 ? 0 : 2, wall == 0 ? 0 : 1);
+                }
             }
         }
+    }
+
+    /** One of five knows it, the next is by, the one behind him is behind a wall, two are away. */
+    private static void heardOf(int p, String learn, String wall, int clearly, int through) {
+        WhoeverKnowsSings x = village(1, 0, 0, 0, 0, 0);
+        x.wall(0, 1, 1);
+        x.teach(p, 0, 2);
+        law(x, "may 1;learn " + learn + ";wall " + wall + ";");
+        int[] where = {-1, -1, -1, -1, -1};
+        where[p] = 0;
+        where[(p + 1) % 5] = 0;
+        where[(p + 2) % 5] = 1;
+        evening(x, 0, 0, where);
+        String told = "learn " + learn + ", wall " + wall + ", of " + p;
+        due(told + ", himself", x.knows(1, p, 0), 2);
+        due(told + ", clearly", x.knows(1, (p + 1) % 5, 0), clearly);
+        due(told + ", through a wall", x.knows(1, (p + 2) % 5, 0), through);
+        due(told + ", away", x.knows(1, (p + 3) % 5, 0), 0);
+        due(told + ", away, too", x.knows(1, (p + 4) % 5, 0), 0);
+        where[(p + 1) % 5] = -1;
+        evening(x, 0, 0, where);
+        due(told + ", nobody else is by", x.knows(2, (p + 2) % 5, 0), 2 * through);
     }
 
     /** "know: how many of it KNOW it whole; will: .. of these SING; by: how many they all are; .." */
@@ -599,6 +617,16 @@ public final class EdgesEveningsTest extends Check {
                 }
             }
         }
+        for (int side = 0; side < 4; side++) {
+            WhoeverKnowsSings x = village(1, 0, 0);
+            x.teach(0, 0, 2);
+            evening(x, 0, 1, 1, 2);
+            evening(x, 0, 2, 2, 1);
+            x.wall(1 + side % 2, 2 - side % 2, 1);
+            due("thin from both sides", x.knows(2, 1, 0), 2);
+            x.wall(1 + side / 2, 2 - side / 2, 0);
+            due("thin from neither side", x.knows(2, 1, 0), 0);
+        }
         WhoeverKnowsSings y = village(1, 0, 0, 0, 0, 0);
         y.teach(0, 0, 2);
         y.wall(0, 1, 1);
@@ -638,6 +666,9 @@ public final class EdgesEveningsTest extends Check {
         evening(x, 0, 0, 0, -1, 0, -1, -1);
         due("whole behind one", x.all(1, 0, 0), 1 | 4 | 8 | 16);
         due("wrong behind one", x.all(1, 0, 2), 8 | 16);
+        evening(x, 0, 0, 0, 0, 0, -1, -1);
+        due("who knew half knows the whole", x.all(2, 0, 0), 31);
+        due("and half no more", x.all(2, 0, 1), 0);
         due("of nobody", village(1).all(0, 0, 0), 0);
         for (int w = 0; w < 3; w++) {
             int what = w;
@@ -693,6 +724,7 @@ public final class EdgesEveningsTest extends Check {
         evening(y, 0, 0, 0);
         asked(() -> village(1), "judge() of a song and no evening", WhoeverKnowsSings::judge, -1);
         due("nobody knows it", y.judge(), 0);
+        asked(Check::rich, "judge()", WhoeverKnowsSings::judge, -1);
     }
 
     // ---- promise 20

@@ -170,6 +170,8 @@ public final class EdgesLotsTest extends Check {
         // 10 PARTS are no more than none times 1000000: they are more.
         due("10 PARTS, most 0", dying(1, 1, 1, 1, 1).keep(0, 0), -1);
         due("0 PARTS by cutting, most 0", dying(1, 1, 1, 1, 1, 1).keep(0, 0), 31);
+        due("11000001 PARTS, most 11", dying(1, 4, 53, 71, 84, 87).keep(0, 11), -1);
+        due("11000001 PARTS, most 12", dying(1, 4, 53, 71, 84, 87).keep(0, 12), 31);
     }
 
     /** "The fewest (bits ..)" */
@@ -392,12 +394,17 @@ public final class EdgesLotsTest extends Check {
 
     /** "nobody BEHIND WALLS", and what is needed is needed. */
     private static void drawnNobodyBehindWalls() {
+        for (int p = 0; p < 2; p++) {
+            WhoeverKnowsSings y = village(1, 0, 0);
+            y.teach(p, 0, 2);
+            y.wall(0, 1, 1);
+            for (int seed = 0; seed < 60; seed++) {
+                due("half, seed " + seed, y.drawn(seed, 0, 1, 1), 0);
+                due("half behind 30, seed " + seed, y.drawn(seed, 0, 30, 1), 0);
+            }
+        }
         WhoeverKnowsSings x = village(1, 0, 0);
         x.teach(0, 0, 2);
-        x.wall(0, 1, 1);
-        for (int seed = 0; seed < 20; seed++) {
-            due("half, seed " + seed, x.drawn(seed, 0, 30, 1), 0);
-        }
         x.song(0);
         x.teach(0, 1, 2);
         due("what is needed isn't known", x.drawn(0, 1, 30, 0), 1);

@@ -13,7 +13,9 @@ public final class EdgesPlansTest extends Check {
         leastAsKnownAtFirst();
         leastOfOtherSongsThroughout();
         leastOthersAsAtFirst();
+        leastByItsOwnNumbers();
         leastFirstCompany();
+        leastByWayOfOne();
         leastFirstCompanyOfNone();
         leastByEveningZero();
         leastOfNothingThere();
@@ -113,6 +115,28 @@ public final class EdgesPlansTest extends Check {
         x.seat(0, 2);
         least("one knew half", x, 30, 0, 7, 3);
         least("one alone", x, 16, 0, 2, 17);
+        for (int p = 0; p < 5; p++) {
+            manyEveningsOf(p);
+        }
+    }
+
+    /** The same by each other one who knows it. */
+    private static void manyEveningsOf(int p) {
+        WhoeverKnowsSings x = village(1, 4, 4, 4, 4, 4);
+        x.teach(p, 0, 2);
+        int one = 1 << p;
+        least("five seats, of " + p, x, 31, 0, 2, 31);
+        x.seat(0, 2);
+        least("two seats, of " + p, x, 31, 0, 8, one | Integer.lowestOneBit(31 & ~one));
+        for (int q = 0; q < 5; q++) {
+            int other = 1 << q;
+            if (q != p) {
+                least(q + " alone, of " + p, x, other, 0, 2, one | other);
+                least(q + " and no other, of " + p, x, other, 31 & ~other, 2, one | other);
+                least("all but " + q + ", of " + p, x, 31 & ~other, other, 6,
+                    one | Integer.lowestOneBit(31 & ~one & ~other));
+            }
+        }
     }
 
     /** "by which the SONG is sung": may lets it, and one sings; learn lets them learn. */
@@ -200,6 +224,43 @@ public final class EdgesPlansTest extends Check {
         WhoeverKnowsSings deaf = taught(0, 0, 3);
         law(deaf, ALL_KNOWING_SING + " and by = 3;learn 1;wall 1;");
         least("a deaf one never learns it", deaf, 2, 4, 1, 7);
+        for (int p = 0; p < 5; p++) {
+            WhoeverKnowsSings y = village(1, 0, 0, 0, 0, 0);
+            y.teach(p, 0, 2);
+            int next = 1 << (p + 1) % 5;
+            int wanted = 1 << (p + 2) % 5;
+            y.teach((p + 1) % 5, 0, 1);
+            least("who knew half knows half yet", y, wanted, next, 1, 1 << p | wanted);
+            least("who knew half is wanted and not", y, next, next, -1, -1);
+        }
+    }
+
+    /** Each company by its own numbers: what one may sing before, another may not. */
+    private static void leastByItsOwnNumbers() {
+        // 0 and 1 sing, 3 and 4 are mute once they know it; only two who both sing before four will do.
+        WhoeverKnowsSings x = village(1, 0, 0, 0, 2, 2);
+        x.teach(0, 0, 2);
+        x.teach(1, 0, 2);
+        law(x, "may know = 2 and will = 2 and by = 4;learn 1;wall 1;");
+        least("two at once", x, 24, 0, 1, 27);
+        least("one of them with the third", x, 12, 0, 1, 15);
+        least("all three never", x, 28, 0, -1, -1);
+        // 0 and 1 sing, 2 is mute; two who both sing before three will do, not two before four.
+        WhoeverKnowsSings y = village(1, 0, 0, 2, 0, 0);
+        y.teach(0, 0, 2);
+        y.teach(1, 0, 2);
+        y.teach(2, 0, 2);
+        law(y, "may know = 2 and will = 2 and by = 3;learn 1;wall 1;");
+        least("one by one", y, 24, 0, 2, 11);
+        // All may be by, four of whom know it and sing.
+        for (int p = 0; p < 5; p++) {
+            WhoeverKnowsSings four = village(1, 0, 0, 0, 0, 0);
+            for (int q = 0; q < 5; q++) {
+                four.teach(q, 0, q == p ? 0 : 2);
+            }
+            law(four, "may know = 4 and will = 4 and by = 5;learn 1;wall 1;");
+            least("the fifth", four, 1 << p, 0, 1, 31);
+        }
     }
 
     /** "1 the least COMPANY (bits) of the first one of any such" */
@@ -220,6 +281,27 @@ public final class EdgesPlansTest extends Check {
         WhoeverKnowsSings two = taught(0, 0, 0, 0);
         two.seat(0, 3);
         least("three, by three seats", two, 14, 0, 2, 3);
+    }
+
+    /** One who is SHY knows it, three are MUTE: only by way of the fifth it takes two evenings. */
+    private static void leastByWayOfOne() {
+        for (int p = 0; p < 5; p++) {
+            for (int q = 0; q < 5; q++) {
+                if (p != q) {
+                    int[] kinds = {2, 2, 2, 2, 2};
+                    kinds[p] = 1;
+                    kinds[q] = 0;
+                    WhoeverKnowsSings x = village(1, kinds);
+                    x.teach(p, 0, 2);
+                    int both = 1 << p | 1 << q;
+                    least(p + " by way of " + q, x, 31 & ~both, 0, 2, both);
+                    least(p + " not by way of " + q, x, 31 & ~both, 1 << q, 3,
+                        1 << p | Integer.lowestOneBit(31 & ~both));
+                    x.teach(q, 0, 1);
+                    least(p + " by way of " + q + ", who knew half", x, 31 & ~both, 0, 2, both);
+                }
+            }
+        }
     }
 
     private static void leastFirstCompanyOfNone() {
@@ -424,6 +506,18 @@ public final class EdgesPlansTest extends Check {
             x.seat(3, 2);
             due("all by two seats, " + songs, x.whole(3, 7), 4 * songs);
         }
+        for (int p = 0; p < 5; p++) {
+            WhoeverKnowsSings x = village(6, 0, 0, 0, 0, 0);
+            for (int s = 0; s < 6; s++) {
+                x.teach(p, s, 2);
+            }
+            due("all, of " + p, x.whole(0, 31), 6);
+            x.seat(0, 2);
+            due("all by two seats, of " + p, x.whole(0, 31), 24);
+            for (int q = 0; q < 5; q++) {
+                due("one, of " + p, x.whole(0, 1 << q), q == p ? 0 : 6);
+            }
+        }
         WhoeverKnowsSings none = village(6);
         due("nobody there is", none.whole(0, 0), 0);
     }
@@ -579,6 +673,16 @@ public final class EdgesPlansTest extends Check {
         was("none hears it through a wall", x, 0, 0, 0);
         row(x, 0, 2, 2, 0);
         was("one alone", x, 1, 1, 1);
+        for (int p = 0; p < 5; p++) {
+            WhoeverKnowsSings y = village(1, 0, 0, 0, 0, 0);
+            for (int r = 1; r < 4; r++) {
+                y.wall(0, r, 1);
+            }
+            y.teach(p, 0, 2);
+            y.sheet(0, 2, 5);
+            y.cell(0, p, 2);
+            was(p + " alone", y, 1, 1 << p, 1 << p);
+        }
     }
 
     /** "-5: no such SONG" */

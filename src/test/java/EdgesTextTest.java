@@ -35,6 +35,7 @@ public final class EdgesTextTest extends Check {
         whatBindsFirst();
         fromTheLeft();
         longestFormulas();
+        manyLongTexts();
         end();
     }
 
@@ -268,6 +269,20 @@ public final class EdgesTextTest extends Check {
             cannot("1 " + key.substring(0, key.length() - 1), 2);
             cannot("1 x" + key, 2);
         }
+        for (String name : words) {
+            for (int i = 0; i < name.length(); i++) {
+                cannot(name.substring(0, i) + "x" + name.substring(i + 1), 0);
+                cannot("1 + " + name.substring(0, i) + "x" + name.substring(i + 1), 4);
+            }
+        }
+        for (String key : keys) {
+            for (int i = 0; i < key.length(); i++) {
+                String other = key.substring(0, i) + "x" + key.substring(i + 1);
+                cannot("1 " + other + " 1", 2);
+                cannot(other + " 1", 0);
+                eachPart(other);
+            }
+        }
         cannot("z", 0);
         cannot("a", 0);
         cannot("abcdefghijklmnopqrstuvwxyz", 0);
@@ -295,8 +310,30 @@ public final class EdgesTextTest extends Check {
             fault("may 1;" + name + " 1;", 6);
             cannot("1 " + name, 2);
         }
-        fault("not 1;", 0);
-        fault("or 1;", 0);
+        String[] parts = {"may", "learn", "wall"};
+        for (String part : parts) {
+            cannot("1 " + part + " 1", 2);
+            cannot("(1 " + part + " 1)", 3);
+        }
+        String[] words = {"may", "learn", "wall", "or", "and", "not", "know", "will", "by", "song", "room",
+            "evening"};
+        for (String word : words) {
+            eachPart(word);
+        }
+    }
+
+    /** A word in place of each part's key: only that key can stand there. */
+    private static void eachPart(String word) {
+        String[] ahead = {"", "may 1;", "may 1;learn 1;"};
+        String[] behind = {" 1;learn 1;wall 1;", " 1;wall 1;", " 1;"};
+        String[] keys = {"may", "learn", "wall"};
+        for (int part = 0; part < 3; part++) {
+            if (word.equals(keys[part])) {
+                fine(ahead[part] + word + behind[part]);
+            } else {
+                fault(ahead[part] + word + behind[part], ahead[part].length());
+            }
+        }
     }
 
     /** "NUMBERS (as many digits as stand there; more than 4 are too long)": 0 .. 9999, 4 digits. */
@@ -639,5 +676,30 @@ public final class EdgesTextTest extends Check {
         }
         value(ors.toString(), 0);
         value(ors + "or 1", 1);
+    }
+
+    /** Texts of 160 bytes, as many as there can be, and faults between: each says what is its own. */
+    private static void manyLongTexts() {
+        WhoeverKnowsSings x = new WhoeverKnowsSings();
+        for (int t = 1; t < 6; t++) {
+            StringBuilder text = new StringBuilder("may 0");
+            while (text.length() < 128) {
+                text.append("+0");
+            }
+            text.append("+").append(t).append("=by;learn by=").append(t).append(";wall ").append(t % 2);
+            while (text.length() < 159) {
+                text.append(' ');
+            }
+            due("a long fault", text(x, text + "#"), -259);
+            due("long text " + t, text(x, text + ";"), t);
+        }
+        for (int t = 1; t < 6; t++) {
+            x.force(t);
+            for (int by = 0; by < 7; by++) {
+                due("may of " + t, x.asks(0, by, 0, 0), by == t ? 1 : 0);
+                due("learn of " + t, x.asks(1, by, 0, 0), by == t ? 1 : 0);
+                due("wall of " + t, x.asks(2, by, 0, 0), t % 2);
+            }
+        }
     }
 }

@@ -137,6 +137,9 @@ public final class EdgesVillageTest extends Check {
         due(told + " is thin yet", x.wall(r, q, 0), 1);
         due(told + " isn't thin any more", x.wall(q, r, 0), 0);
         due(told + " isn't from the other side", x.wall(r, q, 0), 0);
+        x.wall(q, r, 1);
+        due(told + " from the same side", x.wall(q, r, 0), 1);
+        due(told + " from the same side again", x.wall(q, r, 0), 0);
     }
 
     /** "NONE" */

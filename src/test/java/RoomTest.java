@@ -1,4 +1,5 @@
 import java.lang.management.ManagementFactory;
+import java.lang.reflect.Field;
 import java.lang.reflect.Method;
 import java.lang.reflect.Modifier;
 import java.nio.file.Files;
@@ -25,6 +26,7 @@ public final class RoomTest {
         room();
         anyNumbers();
         face();
+        table();
         words();
         System.out.println(wrong == 0 ? "all is as due" : wrong + " things are not as due");
         if (wrong != 0) {
@@ -121,6 +123,17 @@ public final class RoomTest {
                 must(isFace || !names.contains(m.getName()), m + " bears a public name");
                 must(m.getParameterCount() <= 7, m + " takes too many");
             }
+        }
+    }
+
+    /** A wrong number in this table shows in few plans only, so it is looked at itself. */
+    private static void table() throws Exception {
+        Field field = WhoeverKnowsSings.class.getDeclaredField("IN_THREES");
+        field.setAccessible(true);
+        int[] inThrees = (int[]) field.get(null);
+        must(inThrees.length == 32, "IN_THREES has " + inThrees.length);
+        for (int i = 0; i < inThrees.length; i++) {
+            must(inThrees[i] == Integer.parseInt(Integer.toBinaryString(i), 3), "IN_THREES at " + i);
         }
     }
 
