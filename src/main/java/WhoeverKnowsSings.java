@@ -281,10 +281,10 @@ public final class WhoeverKnowsSings {
     }
 
     public int eveningTold(int e, int what) {
-        if (e < 0 || e >= eveningCount) {
+        if (e < 0 || e >= eveningCount || e >= MOST_EVENINGS) {
             return NO_SUCH;
         }
-        if (what < 0 || what >= WHERE_AT + people.size) {
+        if (what < 0 || what >= WHERE_AT && !isOne(what - WHERE_AT)) {
             return NOT_SO;
         }
         return evenings[e][what];
@@ -559,7 +559,7 @@ public final class WhoeverKnowsSings {
                 hits++;
             }
         }
-        int divisor = commonDivisor(hits, seeds);
+        int divisor = Math.max(1, commonDivisor(hits, seeds));
         return part == 0 ? hits / divisor : seeds / divisor;
     }
 
@@ -702,7 +702,7 @@ public final class WhoeverKnowsSings {
     }
 
     private boolean isOne(int p) {
-        return p >= 0 && p < people.size;
+        return p >= 0 && p < people.size && p < MOST_PEOPLE;
     }
 
     private boolean arePeople(int bits) {
@@ -714,7 +714,7 @@ public final class WhoeverKnowsSings {
     }
 
     private Text lawText() {
-        return texts[law];
+        return law >= 0 && law < MOST_TEXTS ? texts[law] : null;
     }
 
     /** A sheet's row, or null if it is missing. */
@@ -754,6 +754,9 @@ public final class WhoeverKnowsSings {
         for (int e = 0; e < n && e < MOST_EVENINGS; e++) {
             int[] told = evenings[e];
             int room = told[ROOM_AT];
+            if (!isSong(told[SONG_AT]) || !isRoom(room)) {
+                continue;
+            }
             singing.begin(text, told[SONG_AT], room, e);
             int company = peopleIn(told, 1 << room);
             if (singing.may(now, company)) {
@@ -813,7 +816,7 @@ public final class WhoeverKnowsSings {
     private long partsLost(int s, int more) {
         int who = first.whole[s] | more;
         long parts = PARTS;
-        for (int p = 0; p < people.size; p++) {
+        for (int p = 0; p < people.size && p < MOST_PEOPLE; p++) {
             if ((who >> p & 1) != 0) {
                 parts = parts * people.dies[p] / 100;
             }
@@ -1446,11 +1449,11 @@ public final class WhoeverKnowsSings {
             reached = 0;
             reach(first.whole[song], first.half[song], 0, 0);
             for (int i = 0; i < reached && i < STANDINGS; i++) {
-                int spent = takes[standing(wholes[i], halves[i])];
-                if (fewest != NONE && spent >= fewest) {
+                int at = standing(wholes[i], halves[i]);
+                if (at < 0 || at >= STANDINGS || fewest != NONE && takes[at] >= fewest) {
                     break;
                 }
-                goOn(i, spent, want, not, away);
+                goOn(i, takes[at], firstOf[at], want, not, away);
             }
             return fewest;
         }
@@ -1459,8 +1462,8 @@ public final class WhoeverKnowsSings {
             return 2 * IN_THREES[whole & 31] + IN_THREES[half & 31];
         }
 
-        private void goOn(int i, int spent, int want, int not, int away) {
-            int start = firstOf[standing(wholes[i], halves[i])];
+        /** From standing i, reached in so many evenings, the first of them before start. */
+        private void goOn(int i, int spent, int start, int want, int not, int away) {
             for (int company = 1; company <= people.everyone(); company++) {
                 boolean fits = Integer.bitCount(company) <= seats && (company & away) == 0;
                 if (fits && isMoved(i, company, not)) {

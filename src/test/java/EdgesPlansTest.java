@@ -24,6 +24,7 @@ public final class EdgesPlansTest extends Check {
         whyThereAre();
         whyHeNeedNotKnowIt();
         whyHeIsAway();
+        whyEachOfSeveral();
         whyNobodyAlone();
         whyOfNothingThere();
         promise = 27;
@@ -399,6 +400,22 @@ public final class EdgesPlansTest extends Check {
         due("it takes two who know it, two are wanted", y.why(0, 0, 6, 0), 0);
         y.teach(2, 0, 2);
         due("there are, with two who know it", y.why(0, 0, 10, 4), 0);
+    }
+
+    /** "those (bits) each of whom, were he always away .., there would be": several, too */
+    private static void whyEachOfSeveral() {
+        // By threes, one of whom knows it: the first evening teaches two, then a third finds no company.
+        WhoeverKnowsSings x = taught(0, 0, 0, 0);
+        law(x, "may will = 1 and by = 3;learn 1;wall 1;");
+        due("each of three", x.why(0, 0, 15, 0), 14);
+        due("each of three, he who knows it not wanted", x.why(0, 0, 14, 0), 14);
+        due("two are wanted", x.why(0, 0, 6, 0), 0);
+        WhoeverKnowsSings last = village(1, 0, 0, 0, 0);
+        last.teach(3, 0, 2);
+        law(last, "may will = 1 and by = 3;learn 1;wall 1;");
+        due("each of the first three", last.why(0, 0, 15, 0), 7);
+        last.teach(1, 0, 1);
+        due("one who knows half of it, too", last.why(0, 0, 7, 0), 7);
     }
 
     private static void whyNobodyAlone() {
