@@ -1411,12 +1411,17 @@ public final class WhoeverKnowsSings {
         private final Singing singing;
         private final Known first;
         private final Known then = new Known();
-        /** By standing: how many evenings it takes, and the least company of their first. */
-        private final int[] takes = new int[STANDINGS];
-        private final int[] firstOf = new int[STANDINGS];
-        /** The standings in the order in which they were reached. */
+        /** By standing: 1, if it was reached. */
+        private final int[] marks = new int[STANDINGS];
+        /**
+         * The standings in the order in which they were reached, each with how many evenings that
+         * took and the company of the first. The order is by the evenings, then by that company,
+         * as companies are tried from the least on: so the first way to a standing is the best.
+         */
         private final int[] wholes = new int[STANDINGS];
         private final int[] halves = new int[STANDINGS];
+        private final int[] spent = new int[STANDINGS];
+        private final int[] firstOf = new int[STANDINGS];
         private int reached;
         /** By know, will and by: whether the text lets the company sing and learn. */
         private final int[] lessons = new int[COUNTS * COUNTS * COUNTS];
@@ -1445,15 +1450,11 @@ public final class WhoeverKnowsSings {
                 return fewest;
             }
             then.take(first);
-            Arrays.fill(takes, NONE);
+            Arrays.fill(marks, 0);
             reached = 0;
             reach(first.whole[song], first.half[song], 0, 0);
-            for (int i = 0; i < reached && i < STANDINGS; i++) {
-                int at = standing(wholes[i], halves[i]);
-                if (at < 0 || at >= STANDINGS || fewest != NONE && takes[at] >= fewest) {
-                    break;
-                }
-                goOn(i, takes[at], firstOf[at], want, not, away);
+            for (int i = 0; i < reached && i < STANDINGS && fewest == NONE; i++) {
+                goOn(i, want, not, away);
             }
             return fewest;
         }
@@ -1462,16 +1463,16 @@ public final class WhoeverKnowsSings {
             return 2 * IN_THREES[whole & 31] + IN_THREES[half & 31];
         }
 
-        /** From standing i, reached in so many evenings, the first of them before start. */
-        private void goOn(int i, int spent, int start, int want, int not, int away) {
-            for (int company = 1; company <= people.everyone(); company++) {
+        /** The evenings that may follow standing i, till behind one all is as wanted. */
+        private void goOn(int i, int want, int not, int away) {
+            for (int company = 1; company <= people.everyone() && fewest == NONE; company++) {
                 boolean fits = Integer.bitCount(company) <= seats && (company & away) == 0;
                 if (fits && isMoved(i, company, not)) {
-                    int opening = spent == 0 ? company : start;
-                    reach(then.whole[song], then.half[song], spent + 1, opening);
+                    int opening = spent[i] == 0 ? company : firstOf[i];
+                    reach(then.whole[song], then.half[song], spent[i] + 1, opening);
                     if ((want & ~then.whole[song]) == 0) {
-                        fewest = spent + 1;
-                        leastFirst = leastFirst == NONE ? opening : Math.min(leastFirst, opening);
+                        fewest = spent[i] + 1;
+                        leastFirst = opening;
                     }
                 }
             }
@@ -1512,18 +1513,15 @@ public final class WhoeverKnowsSings {
 
         private void reach(int whole, int half, int evenings, int opening) {
             int at = standing(whole, half);
-            if (at < 0 || at >= STANDINGS) {
+            if (at < 0 || at >= STANDINGS || marks[at] != 0 || reached >= STANDINGS) {
                 return;
             }
-            if (takes[at] == NONE && reached < STANDINGS) {
-                takes[at] = evenings;
-                firstOf[at] = opening;
-                wholes[reached] = whole;
-                halves[reached] = half;
-                reached++;
-            } else if (takes[at] == evenings) {
-                firstOf[at] = Math.min(firstOf[at], opening);
-            }
+            marks[at] = 1;
+            wholes[reached] = whole;
+            halves[reached] = half;
+            spent[reached] = evenings;
+            firstOf[reached] = opening;
+            reached++;
         }
     }
 

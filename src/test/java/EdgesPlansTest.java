@@ -16,6 +16,7 @@ public final class EdgesPlansTest extends Check {
         leastByItsOwnNumbers();
         leastFirstCompany();
         leastByWayOfOne();
+        leastByWill();
         leastFirstCompanyOfNone();
         leastByEveningZero();
         leastOfNothingThere();
@@ -353,6 +354,28 @@ public final class EdgesPlansTest extends Check {
         int[] beyond = {-1, 2, -2, 3, MIN, MAX};
         for (int what : beyond) {
             refused("least(0, 0, 1, 0, " + what + ")", x -> x.least(0, 0, 1, 0, what), NOT_SO);
+        }
+    }
+
+    /** "will: how many of these SING": as many know it and are by, but not as many sing. */
+    private static void leastByWill() {
+        int[][] kinds = {{0, 0, 2, 0}, {0, 2, 0, 0}, {2, 0, 0, 0}};
+        int[] mute = {2, 1, 0};
+        for (int i = 0; i < kinds.length; i++) {
+            WhoeverKnowsSings one = village(1, kinds[i]);
+            WhoeverKnowsSings two = village(1, kinds[i]);
+            for (int p = 0; p < 3; p++) {
+                one.teach(p, 0, 2);
+                two.teach(p, 0, 2);
+            }
+            law(one, "may know = 2 and will = 1;learn 1;wall 1;");
+            law(two, "may know = 2 and will = 2;learn 1;wall 1;");
+            // The least company of the mute one, another who knows it, and 3.
+            int withMute = 8 | 1 << mute[i] | (mute[i] == 0 ? 2 : 1);
+            due("one of two sings", one.least(0, 0, 8, 0, 0), 1);
+            due("one of two sings, who is by first", one.least(0, 0, 8, 0, 1), withMute);
+            due("both sing", two.least(0, 0, 8, 0, 0), 1);
+            due("both sing, who is by first", two.least(0, 0, 8, 0, 1), 15 & ~(1 << mute[i]));
         }
     }
 

@@ -7,12 +7,18 @@ import java.util.Random;
 
 /** Long runs of calls by a fixed seed, against a second and plainer telling of the document. */
 public final class OracleTest {
-    private static final int RUNS = 500, CALLS = 512, SHOWN = 20;
+    private static final int RUNS = 500, NARROW = 1500, CALLS = 512, SHOWN = 20;
+    /** What laws are made of that let few companies sing, so that plans are long, or there are none. */
+    private static final String[] NARROWS = {"by=2", "by=3", "by<3", "know=1", "know=2", "will=know",
+        "0<will", "will=1", "will<3", "by=4", "2<by", "know*2=by", "room=1", "will<know", "know+1=by"};
 
     public static void main(String[] args) {
         int wrong = 0;
         for (int run = 0; run < RUNS && wrong < SHOWN; run++) {
             wrong += new Run(run).go();
+        }
+        for (int run = RUNS; run < RUNS + NARROW && wrong < SHOWN; run++) {
+            wrong += new Run(run).goNarrow();
         }
         System.out.println(wrong == 0 ? "all answers are as due" : wrong + " runs are not as due");
         if (wrong != 0) {
@@ -45,6 +51,39 @@ public final class OracleTest {
                 return 1;
             }
             return 0;
+        }
+
+        /** A village with few songs, many people and a narrow law, and plans alone: 1 if one differed. */
+        int goNarrow() {
+            try {
+                o.seat(0, 5 - run % 4);
+                x.seat(0, 5 - run % 4);
+                for (int i = 0; i < 2; i++) {
+                    newSong();
+                }
+                for (int i = 0; i < 4 + run % 2; i++) {
+                    newPerson();
+                    for (int s = 0; s < 2; s++) {
+                        int v = random.nextInt(3) == 0 ? 2 : random.nextInt(2);
+                        due(x.teach(i, s, v), o.teach(i, s, v), "teach", i, s, v);
+                    }
+                }
+                read("may " + narrow() + ";learn " + (run % 3 == 0 ? narrow() : "1") + ";wall 1;");
+                due(x.force(1), o.force(1), "force", 1);
+                for (int i = 0; i < 8; i++) {
+                    plan();
+                }
+            } catch (Differs d) {
+                return 1;
+            }
+            return 0;
+        }
+
+        String narrow() {
+            String one = NARROWS[random.nextInt(NARROWS.length)];
+            String[] between = {"", " and ", " or ", " and not "};
+            String is = between[random.nextInt(between.length)];
+            return is.isEmpty() ? one : one + is + NARROWS[random.nextInt(NARROWS.length)];
         }
 
         void due(long got, long want, String name, int... a) {
@@ -162,7 +201,17 @@ public final class OracleTest {
         }
 
         void newText() {
-            String text = new Words(random).text();
+            read(new Words(random).text());
+            int n = pick(7);
+            int[] b = new int[5];
+            for (int i = 0; i < 5; i++) {
+                b[i] = random.nextInt(9) == 0 ? pick(256) : 32;
+            }
+            due(x.feed(n, b[0], b[1], b[2], b[3], b[4]), o.feed(n, b[0], b[1], b[2], b[3], b[4]),
+                "feed", n, b[0], b[1], b[2], b[3], b[4]);
+        }
+
+        void read(String text) {
             for (int i = 0; i < text.length(); i++) {
                 // The tape is fed in one go, not counted as calls.
                 int b = text.charAt(i);
@@ -172,13 +221,6 @@ public final class OracleTest {
             }
             calls.add("tape: " + text);
             due(x.text(), o.text(), "text");
-            int n = pick(7);
-            int[] b = new int[5];
-            for (int i = 0; i < 5; i++) {
-                b[i] = random.nextInt(9) == 0 ? pick(256) : 32;
-            }
-            due(x.feed(n, b[0], b[1], b[2], b[3], b[4]), o.feed(n, b[0], b[1], b[2], b[3], b[4]),
-                "feed", n, b[0], b[1], b[2], b[3], b[4]);
         }
 
         void some() {

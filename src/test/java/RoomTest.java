@@ -25,6 +25,7 @@ public final class RoomTest {
     public static void main(String[] args) throws Exception {
         room();
         anyNumbers();
+        stored();
         face();
         table();
         words();
@@ -81,26 +82,69 @@ public final class RoomTest {
 
     /** Numbers from all over: no call may throw. */
     private static void anyNumbers() throws Exception {
+        Random random = new Random(99);
+        for (int run = 0; run < 300; run++) {
+            callAll(run % 2 == 0 ? village() : new WhoeverKnowsSings(), random);
+        }
+    }
+
+    private static void callAll(WhoeverKnowsSings x, Random random) throws Exception {
         int[] edges = {Integer.MIN_VALUE, Integer.MAX_VALUE, -100, -2, -1, 0, 1, 2, 3, 4, 5, 6, 7, 10, 11,
             12, 31, 32, 40, 41, 100, 101, 255, 256, 999, 1000, 99999, 100000, Integer.MAX_VALUE - 1};
-        Random random = new Random(99);
         List<Method> methods = new ArrayList<>();
         for (Method m : WhoeverKnowsSings.class.getDeclaredMethods()) {
             if (Modifier.isPublic(m.getModifiers())) {
                 methods.add(m);
             }
         }
-        for (int run = 0; run < 300; run++) {
-            WhoeverKnowsSings x = run % 2 == 0 ? village() : new WhoeverKnowsSings();
-            for (int i = 0; i < 480; i++) {
-                Method m = methods.get(random.nextInt(methods.size()));
-                Object[] a = new Object[m.getParameterCount()];
-                for (int k = 0; k < a.length; k++) {
-                    a[k] = random.nextInt(3) == 0 ? edges[random.nextInt(edges.length)] : random.nextInt(6);
+        for (int i = 0; i < 480; i++) {
+            Method m = methods.get(random.nextInt(methods.size()));
+            Object[] a = new Object[m.getParameterCount()];
+            for (int k = 0; k < a.length; k++) {
+                a[k] = random.nextInt(3) == 0 ? edges[random.nextInt(edges.length)] : random.nextInt(6);
+            }
+            m.invoke(x, a);
+        }
+    }
+
+    /**
+     * LANGUAGE.md, 7: "an index is looked at before it is used": numbers that the object keeps, too.
+     * No run of calls makes them so; they are put there past the calls.
+     */
+    private static void stored() throws Exception {
+        Random random = new Random(7);
+        for (int run = 0; run < 20; run++) {
+            for (int law : new int[] {-1, 6, 7}) {
+                callAll(with("law", law), random);
+            }
+            callAll(with("songCount", 7), random);
+            callAll(with("textCount", 7), random);
+            callAll(with("eveningCount", 13), random);
+            WhoeverKnowsSings x = village();
+            Object people = field(x.getClass(), "people").get(x);
+            field(people.getClass(), "size").setInt(people, 6);
+            callAll(x, random);
+            for (int at = 0; at < 2; at++) {
+                for (int number : new int[] {-1, 6, 7}) {
+                    WhoeverKnowsSings y = village();
+                    y.evening(0, 0, 0);
+                    ((int[][]) field(y.getClass(), "evenings").get(y))[0][at] = number;
+                    callAll(y, random);
                 }
-                m.invoke(x, a);
             }
         }
+    }
+
+    private static WhoeverKnowsSings with(String name, int number) throws Exception {
+        WhoeverKnowsSings x = village();
+        field(x.getClass(), name).setInt(x, number);
+        return x;
+    }
+
+    private static Field field(Class<?> of, String name) throws Exception {
+        Field field = of.getDeclaredField(name);
+        field.setAccessible(true);
+        return field;
     }
 
     private static void face() {
@@ -128,9 +172,7 @@ public final class RoomTest {
 
     /** A wrong number in this table shows in few plans only, so it is looked at itself. */
     private static void table() throws Exception {
-        Field field = WhoeverKnowsSings.class.getDeclaredField("IN_THREES");
-        field.setAccessible(true);
-        int[] inThrees = (int[]) field.get(null);
+        int[] inThrees = (int[]) field(WhoeverKnowsSings.class, "IN_THREES").get(null);
         must(inThrees.length == 32, "IN_THREES has " + inThrees.length);
         for (int i = 0; i < inThrees.length; i++) {
             must(inThrees[i] == Integer.parseInt(Integer.toBinaryString(i), 3), "IN_THREES at " + i);
