@@ -295,6 +295,18 @@ public final class EdgesVillageTest extends Check {
             refused("byte 256 at " + at + ", n 1", x -> feed(x, 1, place, 256), BAD);
             refused("byte -1 at " + at + ", n " + at, x -> feed(x, place, place, -1), BAD);
         }
+        // Of several that are wrong alike each is wrong.
+        int[] bytes = new int[5];
+        for (int which = 3; which < 32; which++) {
+            for (int b : new int[] {256, -1, MIN}) {
+                for (int at = 0; at < 5; at++) {
+                    bytes[at] = (which >> at & 1) == 1 ? b : 'm';
+                }
+                int[] five = bytes.clone();
+                refused("bytes " + b + " at all of " + which,
+                    x -> x.feed(5, five[0], five[1], five[2], five[3], five[4]), BAD);
+            }
+        }
     }
 
     /** "The first n .. come behind THE TAPE's, one by one": in their order, none behind the nth. */
